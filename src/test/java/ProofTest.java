@@ -20,7 +20,23 @@ final class ProofTest {
         promise21Verdict();
         promise21VerdictOfVoidOnes();
         promise22Best();
+        exampleOfTheReadme();
         check.end();
+    }
+
+    private static void exampleOfTheReadme() {
+        ChoiceBoard board = new ChoiceBoard();
+        Check.draft(board, 0, 1, 1, 1).require(0, 1);
+        Check.draft(board, 0, 3, 1, 2).objective();
+        check.same("example: solve", board.solve(), 1);
+        check.same("example: solution", Check.solution(board), "2 0100000000");
+        check.same("example: found", board.found(2), true);
+        board.load(0);
+        board.times(2);
+        board.load(1);
+        board.add();
+        board.learn();
+        check.same("example: verdict", board.verdict(), 2);
     }
 
     private static void promise18Learn() {
@@ -150,9 +166,11 @@ final class ProofTest {
         full.solve();
         check.same("19 full leaves the draft", full.least(), -6);
         ChoiceBoard last = new ChoiceBoard();
-        for (int k = 0; k < 30; k++) {
-            check.same("19 thirty fit", last.contradict(0), k);
+        for (int k = 0; k < 29; k++) {
+            check.same("19 many fit", last.contradict(0), k);
         }
+        check.same("19 not shown, with 29", last.contradict(1), -1);
+        check.same("19 thirty fit", last.contradict(0), 29);
         check.refuses(last, "19 full of derived ones", () -> last.contradict(0), STATE);
     }
 
@@ -261,6 +279,11 @@ final class ProofTest {
         check.same("21 sizes 1 less", board.verdict(), 1);
         board.require(0, 0);
         check.same("21 not the last one", board.verdict(), 1);
+        ChoiceBoard first = new ChoiceBoard();
+        first.require(0, 1);
+        check.same("21 the first one", first.verdict(), 1);
+        first.require(0, 0);
+        check.same("21 still the first one", first.verdict(), 1);
         ChoiceBoard contrary = new ChoiceBoard();
         Check.draft(contrary, 0, 1).require(0, 1);
         Check.draft(contrary, 0, 1).require(1, 0);

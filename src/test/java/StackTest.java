@@ -131,6 +131,14 @@ final class StackTest {
         axioms.axiom(3, false);
         axioms.add();
         check.same("11 axioms of both kinds", Check.top(axioms), ">= 0");
+        ChoiceBoard ones = loaded(1, 0, -1, 1, 1);
+        push(ones, 1, 0, 1);
+        ones.add();
+        check.same("11 sizes of 1, the first below 0", Check.top(ones), "1 x1 >= 2");
+        ChoiceBoard onesTurned = loaded(1, 0, 1);
+        push(onesTurned, 1, 0, -1, 1, 1);
+        onesTurned.add();
+        check.same("11 sizes of 1, the second below 0", Check.top(onesTurned), "1 x1 >= 2");
         ChoiceBoard late = loaded(3, 0, 1, 1, 9);
         push(late, 2, 0, -1, 1, -9);
         check.same("11 the degree is cut at 0 in the end only", Check.top(late), "-1 x0 -9 x1 >= 12");
