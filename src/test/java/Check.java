@@ -1,8 +1,11 @@
-/** What the tests share: comparing answers, expecting exceptions, and writing a board's state out. */
-final class Check {
-    private static final int VARIABLES = 10;
+import java.util.concurrent.Callable;
+import java.util.function.Consumer;
+import java.util.function.Function;
 
+/** What the tests share: comparing answers, expecting exceptions, and setting up boards. */
+final class Check {
     private final String title;
+    private String about = "";
     private int asked = 0;
     private int wrong = 0;
 
@@ -10,11 +13,16 @@ final class Check {
         this.title = title;
     }
 
+    /** Names the sentence of the document that the checks from here on are about. */
+    void sentence(String text) {
+        about = "\"" + text + "\": ";
+    }
+
     void same(String what, Object got, Object want) {
         asked++;
         if (!got.equals(want)) {
             wrong++;
-            System.out.println(title + ": " + what + ": got " + got + ", due is " + want);
+            System.out.println(title + ": " + about + what + ": got " + got + ", due is " + want);
         }
     }
 
@@ -22,11 +30,21 @@ final class Check {
         same(what, outcome(call), want.getSimpleName());
     }
 
-    /** The call throws just that, and nothing that can be asked without a change is changed. */
-    void refuses(ChoiceBoard board, String what, Runnable call, Class<? extends RuntimeException> want) {
-        String before = state(board);
-        yields(what, call, want);
-        same(what + " changes nothing", state(board), before);
+    /** After the calls before it, the call throws just that, and nothing has changed. */
+    void refuses(Consumer<Face> before, String what, Consumer<Face> call, Class<? extends RuntimeException> want) {
+        leaves(before, what, board -> outcome(() -> call.accept(board)), want.getSimpleName());
+    }
+
+    /** After the calls before it, the call answers just that, and nothing has changed. */
+    void leaves(Consumer<Face> before, String what, Function<Face, Object> call, Object want) {
+        for (Look look : Look.values()) {
+            Face board = after(before);
+            Object got = call.apply(board);
+            if (look.ordinal() == 0) {
+                same(what, got, want);
+            }
+            same(what + " changes nothing of " + look, look.at(board), look.at(after(before)));
+        }
     }
 
     void end() {
@@ -36,82 +54,38 @@ final class Check {
         }
     }
 
-    static String outcome(Runnable call) {
+    /** The answer, or the name of what is thrown instead. */
+    static String outcome(Callable<Object> call) {
         try {
-            call.run();
-            return "nothing";
-        } catch (RuntimeException e) {
+            return String.valueOf(call.call());
+        } catch (Exception e) {
             return e.getClass().getSimpleName();
         }
     }
 
+    static String outcome(Runnable call) {
+        return outcome(() -> {
+            call.run();
+            return "nothing";
+        });
+    }
+
+    static Face after(Consumer<Face> calls) {
+        Face board = new Real();
+        calls.accept(board);
+        return board;
+    }
+
     /** Sets factors of the draft: variable, factor, variable, factor, and so on. */
-    static ChoiceBoard draft(ChoiceBoard board, int... pairs) {
+    static Face draft(Face board, int... pairs) {
         for (int i = 0; i < pairs.length; i += 2) {
             board.term(pairs[i], pairs[i + 1]);
         }
         return board;
     }
 
-    static String stored(ChoiceBoard board, int k) {
-        StringBuilder text = new StringBuilder();
-        for (int v = 0; v < VARIABLES; v++) {
-            appendTerm(text, board.constraint(k, v), v);
-        }
-        text.append(">= ").append(board.constraint(k, -1));
-        return text.append(board.constraint(k, -2) == 1 ? " given" : " derived").toString();
-    }
-
-    static String top(ChoiceBoard board) {
-        StringBuilder text = new StringBuilder();
-        for (int v = 0; v < VARIABLES; v++) {
-            appendTerm(text, board.top(v), v);
-        }
-        return text.append(">= ").append(board.top(-1)).toString();
-    }
-
-    private static void appendTerm(StringBuilder text, int weight, int v) {
-        if (weight != 0) {
-            text.append(weight).append(" x").append(v).append(' ');
-        }
-    }
-
-    static String state(ChoiceBoard board) {
-        StringBuilder text = new StringBuilder();
-        for (int k = 0; k < board.constraints(); k++) {
-            text.append(stored(board, k)).append("; ");
-        }
-        text.append("stack ").append(board.top(-2)).append(": ");
-        text.append(board.top(-2) > 0 ? top(board) : "empty");
-        text.append("; verdict ").append(board.verdict());
-        text.append("; best ").append(bestOrNone(board));
-        return text.append("; solved ").append(solution(board)).toString();
-    }
-
-    private static String bestOrNone(ChoiceBoard board) {
-        try {
-            return String.valueOf(board.best());
-        } catch (java.util.NoSuchElementException e) {
-            return "none";
-        }
-    }
-
-    /** The least value and the truth values 0 .. 9 of the latest solve, or none. */
-    static String solution(ChoiceBoard board) {
-        try {
-            StringBuilder text = new StringBuilder();
-            text.append(board.least()).append(' ');
-            for (int v = 0; v < VARIABLES; v++) {
-                text.append(board.value(v));
-            }
-            return text.toString();
-        } catch (java.util.NoSuchElementException e) {
-            return "none";
-        }
-    }
-
-    static ChoiceBoard withFullStore() {
-        ChoiceBoard board = new ChoiceBoard();
+    static Face withFullStore() {
+        Face board = new Real();
         for (int k = 0; k < 30; k++) {
             board.require(0, 0);
         }

@@ -25,11 +25,11 @@ final class ProofTest {
     }
 
     private static void exampleOfTheReadme() {
-        ChoiceBoard board = new ChoiceBoard();
+        Face board = new Real();
         Check.draft(board, 0, 1, 1, 1).require(0, 1);
         Check.draft(board, 0, 3, 1, 2).objective();
         check.same("example: solve", board.solve(), 1);
-        check.same("example: solution", Check.solution(board), "2 0100000000");
+        check.same("example: solution", Look.solution(board), "2 0100000000");
         check.same("example: found", board.found(2), true);
         board.load(0);
         board.times(2);
@@ -40,39 +40,39 @@ final class ProofTest {
     }
 
     private static void promise18Learn() {
-        ChoiceBoard board = new ChoiceBoard();
-        check.refuses(board, "18 none", board::learn, STATE);
+        Face board = new Real();
+        check.yields("18 none", board::learn, STATE);
         Check.draft(board, 0, 4, 1, -2).require(0, 1);
         board.load(0);
         board.axiom(3, false);
         board.load(0);
         board.times(2);
         check.same("18 number", board.learn(), 1);
-        check.same("18 learnt", Check.stored(board, 1), "8 x0 -4 x1 >= 6 derived");
-        check.same("18 off the stack", Check.top(board), "-1 x3 >= 0");
+        check.same("18 learnt", Look.stored(board, 1), "8 x0 -4 x1 >= 6 derived");
+        check.same("18 off the stack", Look.top(board), "-1 x3 >= 0");
         check.same("18 next number", board.learn(), 2);
-        check.same("18 learnt too", Check.stored(board, 2), "-1 x3 >= 0 derived");
-        check.same("18 the given is left", Check.stored(board, 0), "4 x0 -2 x1 >= 3 given");
+        check.same("18 learnt too", Look.stored(board, 2), "-1 x3 >= 0 derived");
+        check.same("18 the given is left", Look.stored(board, 0), "4 x0 -2 x1 >= 3 given");
         board.times(5);
         board.load(1);
         board.times(3);
-        check.same("18 what is done on the stack stays there", Check.stored(board, 1), "8 x0 -4 x1 >= 6 derived");
+        check.same("18 what is done on the stack stays there", Look.stored(board, 1), "8 x0 -4 x1 >= 6 derived");
         board.drop();
         board.drop();
-        check.refuses(board, "18 none again", board::learn, STATE);
+        check.yields("18 none again", board::learn, STATE);
 
-        ChoiceBoard full = Check.withFullStore();
-        check.refuses(full, "18 none, and full", full::learn, STATE);
+        Face full = Check.withFullStore();
+        check.yields("18 none, and full", full::learn, STATE);
         full.axiom(0, true);
-        check.refuses(full, "18 full", full::learn, STATE);
-        ChoiceBoard taken = new ChoiceBoard();
+        check.yields("18 full", full::learn, STATE);
+        Face taken = new Real();
         taken.found(0);
         taken.axiom(0, true);
         check.same("18 after a choice", taken.learn(), 0);
     }
 
     private static void promise19Contradict() {
-        ChoiceBoard board = new ChoiceBoard();
+        Face board = new Real();
         Check.draft(board, 0, 1, 1, 1).require(0, 1);
         Check.draft(board, 0, -1, 1, 1).require(0, 0);
         Check.draft(board, 0, 1);
@@ -80,15 +80,15 @@ final class ProofTest {
         check.same("19 not shown: nothing in the store", board.constraints(), 2);
         Check.draft(board, 0, 0, 1, 1);
         check.same("19 shown", board.contradict(1), 2);
-        check.same("19 it is derived", Check.stored(board, 2), "1 x1 >= 1 derived");
-        check.same("19 the draft is cleared", Check.stored(board, board.contradict(0)), ">= 0 derived");
+        check.same("19 it is derived", Look.stored(board, 2), "1 x1 >= 1 derived");
+        check.same("19 the draft is cleared", Look.stored(board, board.contradict(0)), ">= 0 derived");
         Check.draft(board, 3, 1, 1, 1);
         check.same("19 not shown again", board.contradict(2), -1);
         check.same("19 not shown: the draft stays", board.contradict(1), 4);
-        check.same("19 with the draft that stayed", Check.stored(board, 4), "1 x1 1 x3 >= 1 derived");
+        check.same("19 with the draft that stayed", Look.stored(board, 4), "1 x1 1 x3 >= 1 derived");
         Check.draft(board, 2, -3, 1, 2);
         check.same("19 factors below 0", board.contradict(-1), 5);
-        check.same("19 normalized", Check.stored(board, 5), "2 x1 -3 x2 >= 2 derived");
+        check.same("19 normalized", Look.stored(board, 5), "2 x1 -3 x2 >= 2 derived");
         Check.draft(board, 2, -3, 1, 2);
         check.same("19 one more is too much", board.contradict(0), -1);
         Check.draft(board, 2, 0, 1, 1);
@@ -96,17 +96,17 @@ final class ProofTest {
     }
 
     private static void promise19ContradictOfTheTrivial() {
-        ChoiceBoard board = new ChoiceBoard();
+        Face board = new Real();
         check.same("19 nothing counts at least 0", board.contradict(0), 0);
         check.same("19 nothing counts at least 1", board.contradict(1), -1);
         Check.draft(board, 0, 2, 1, -3);
         check.same("19 least sum", board.contradict(-3), 1);
-        check.same("19 least sum normalized", Check.stored(board, 1), "2 x0 -3 x1 >= 0 derived");
+        check.same("19 least sum normalized", Look.stored(board, 1), "2 x0 -3 x1 >= 0 derived");
         Check.draft(board, 0, 2, 1, -3);
         check.same("19 above the least sum", board.contradict(-2), -1);
         check.same("19 b 9999", board.contradict(9999), -1);
         check.same("19 b -9999", board.contradict(-9999), 2);
-        check.same("19 b -9999 normalized", Check.stored(board, 2), "2 x0 -3 x1 >= 0 derived");
+        check.same("19 b -9999 normalized", Look.stored(board, 2), "2 x0 -3 x1 >= 0 derived");
         Check.draft(board, 5, 1);
         check.same("19 the contrary of a void one is met by all", board.contradict(2), -1);
         check.same("19 a void one, by far", board.contradict(500), -1);
@@ -114,20 +114,20 @@ final class ProofTest {
     }
 
     private static void promise19ContradictByTheStore() {
-        ChoiceBoard hopeless = new ChoiceBoard();
+        Face hopeless = new Real();
         hopeless.require(0, 1);
         Check.draft(hopeless, 4, 7);
         check.same("19 with a void one all is shown", hopeless.contradict(9999), 1);
-        check.same("19 even that", Check.stored(hopeless, 1), "7 x4 >= 9999 derived");
+        check.same("19 even that", Look.stored(hopeless, 1), "7 x4 >= 9999 derived");
 
-        ChoiceBoard pairs = new ChoiceBoard();
+        Face pairs = new Real();
         Check.draft(pairs, 0, 1, 1, 1).require(0, 1);
         Check.draft(pairs, 0, 1, 2, 1).require(0, 1);
         Check.draft(pairs, 1, 1, 2, 1).require(0, 1);
         Check.draft(pairs, 0, 1, 1, 1, 2, 1);
         check.same("19 two of three: true, but closing does not show it", pairs.contradict(2), -1);
 
-        ChoiceBoard steps = new ChoiceBoard();
+        Face steps = new Real();
         Check.draft(steps, 0, 1, 1, 1, 2, 1).require(0, 1);
         Check.draft(steps, 0, 1, 1, 1, 2, -1).require(0, 0);
         Check.draft(steps, 0, 1, 1, -1, 2, 1).require(0, 0);
@@ -136,46 +136,46 @@ final class ProofTest {
         check.same("19 a step between", Check.draft(steps, 1, 1).contradict(1), 4);
         check.same("19 derived ones help", Check.draft(steps, 0, 1).contradict(1), 5);
 
-        ChoiceBoard chain = new ChoiceBoard();
+        Face chain = new Real();
         for (int v = 8; v >= 0; v--) {
             Check.draft(chain, v, -1, v + 1, 1).require(0, 0);
         }
         Check.draft(chain, 0, -1, 9, 1);
         check.same("19 through a chain", chain.contradict(0), 9);
 
-        ChoiceBoard derived = new ChoiceBoard();
+        Face derived = new Real();
         derived.found(0);
         Check.draft(derived, 0, 5).contradict(0);
         check.same("19 after a choice", derived.constraints(), 1);
     }
 
     private static void promise19ContradictRefuses() {
-        ChoiceBoard board = new ChoiceBoard();
+        Face board = new Real();
         Check.draft(board, 2, 3);
         for (int b : new int[] {-10000, 10000, Integer.MIN_VALUE, Integer.MAX_VALUE}) {
-            check.refuses(board, "19 contradict " + b, () -> board.contradict(b), ARGUMENT);
+            check.yields("19 contradict " + b, () -> board.contradict(b), ARGUMENT);
         }
         board.contradict(0);
-        check.same("19 wrong b leaves the draft", Check.stored(board, 0), "3 x2 >= 0 derived");
-        ChoiceBoard full = Check.withFullStore();
+        check.same("19 wrong b leaves the draft", Look.stored(board, 0), "3 x2 >= 0 derived");
+        Face full = Check.withFullStore();
         Check.draft(full, 0, -6);
-        check.refuses(full, "19 full", () -> full.contradict(-9999), STATE);
-        check.refuses(full, "19 full, though not shown", () -> full.contradict(9999), STATE);
-        check.refuses(full, "19 wrong b first", () -> full.contradict(10000), ARGUMENT);
+        check.yields("19 full", () -> full.contradict(-9999), STATE);
+        check.yields("19 full, though not shown", () -> full.contradict(9999), STATE);
+        check.yields("19 wrong b first", () -> full.contradict(10000), ARGUMENT);
         full.objective();
         full.solve();
         check.same("19 full leaves the draft", full.least(), -6);
-        ChoiceBoard last = new ChoiceBoard();
+        Face last = new Real();
         for (int k = 0; k < 29; k++) {
             check.same("19 many fit", last.contradict(0), k);
         }
         check.same("19 not shown, with 29", last.contradict(1), -1);
         check.same("19 thirty fit", last.contradict(0), 29);
-        check.refuses(last, "19 full of derived ones", () -> last.contradict(0), STATE);
+        check.yields("19 full of derived ones", () -> last.contradict(0), STATE);
     }
 
     private static void promise20Found() {
-        ChoiceBoard board = new ChoiceBoard();
+        Face board = new Real();
         check.same("20 no constraints", board.found(0), true);
         check.same("20 no objective: nothing comes into the store", board.constraints(), 0);
         check.same("20 best", board.best(), 0);
@@ -184,42 +184,42 @@ final class ProofTest {
     }
 
     private static void promise20FoundBoundsTheObjective() {
-        ChoiceBoard board = new ChoiceBoard();
+        Face board = new Real();
         Check.draft(board, 0, 4, 1, -3, 9, 2).objective();
         Check.draft(board, 7, 1);
         check.same("20 taken", board.found(513), true);
         check.same("20 value", board.best(), 6);
-        check.same("20 bound", Check.stored(board, 0), "-4 x0 3 x1 -2 x9 >= 1 derived");
+        check.same("20 bound", Look.stored(board, 0), "-4 x0 3 x1 -2 x9 >= 1 derived");
         check.same("20 not better", board.found(513), false);
         check.same("20 not taken: best stays", board.best(), 6);
         check.same("20 not taken: nothing in the store", board.constraints(), 1);
         check.same("20 better by 4", board.found(512), true);
-        check.same("20 bound again", Check.stored(board, 1), "-4 x0 3 x1 -2 x9 >= 5 derived");
+        check.same("20 bound again", Look.stored(board, 1), "-4 x0 3 x1 -2 x9 >= 5 derived");
         check.same("20 the latest is best", board.best(), 2);
         check.same("20 equal is not better", board.found(512), false);
         check.same("20 least", board.found(2), true);
         check.same("20 below 0", board.best(), -3);
-        check.same("20 void bound", Check.stored(board, 2), "-4 x0 3 x1 -2 x9 >= 10 derived");
+        check.same("20 void bound", Look.stored(board, 2), "-4 x0 3 x1 -2 x9 >= 10 derived");
         check.same("20 none better", board.found(2), false);
-        check.same("20 the draft is left", Check.stored(board, Check.draft(board).contradict(0)), "1 x7 >= 0 derived");
+        check.same("20 the draft is left", Look.stored(board, Check.draft(board).contradict(0)), "1 x7 >= 0 derived");
     }
 
     private static void promise20FoundMustMeetAll() {
-        ChoiceBoard board = new ChoiceBoard();
+        Face board = new Real();
         Check.draft(board, 0, 2, 1, 1, 2, -3).require(0, 1);
-        check.same("20 degree", Check.stored(board, 0), "2 x0 1 x1 -3 x2 >= 4 given");
+        check.same("20 degree", Look.stored(board, 0), "2 x0 1 x1 -3 x2 >= 4 given");
         check.same("20 counts 3 of 4", board.found(0), false);
         check.same("20 counts 3 of 4, by trues", board.found(7), false);
         check.same("20 not taken", board.verdict(), 0);
         check.same("20 not fixed", Check.outcome(board::objective), "nothing");
         check.same("20 counts 4 of 4", board.found(2), true);
-        ChoiceBoard derived = new ChoiceBoard();
+        Face derived = new Real();
         Check.draft(derived, 5, 1).require(0, 1);
         derived.load(0);
         derived.learn();
         check.same("20 the last of all counts", derived.found(31), false);
         check.same("20 met", derived.found(32), true);
-        ChoiceBoard bounded = new ChoiceBoard();
+        Face bounded = new Real();
         Check.draft(bounded, 0, -1).objective();
         check.same("20 first", bounded.found(0), true);
         check.same("20 derived ones count too", bounded.found(2), false);
@@ -227,38 +227,38 @@ final class ProofTest {
     }
 
     private static void promise20FoundRefuses() {
-        ChoiceBoard board = new ChoiceBoard();
+        Face board = new Real();
         for (int choice : new int[] {-1, 1024, Integer.MIN_VALUE, Integer.MAX_VALUE}) {
-            check.refuses(board, "20 found " + choice, () -> board.found(choice), ARGUMENT);
+            check.yields("20 found " + choice, () -> board.found(choice), ARGUMENT);
         }
         check.same("20 not fixed by wrong ones", Check.outcome(board::objective), "nothing");
-        ChoiceBoard full = Check.withFullStore();
-        check.refuses(full, "20 full", () -> full.found(0), STATE);
-        check.refuses(full, "20 wrong choice first", () -> full.found(1024), ARGUMENT);
+        Face full = Check.withFullStore();
+        check.yields("20 full", () -> full.found(0), STATE);
+        check.yields("20 wrong choice first", () -> full.found(1024), ARGUMENT);
         Check.draft(full, 0, 1).objective();
-        check.refuses(full, "20 full, with an objective", () -> full.found(0), STATE);
-        ChoiceBoard unmet = new ChoiceBoard();
+        check.yields("20 full, with an objective", () -> full.found(0), STATE);
+        Face unmet = new Real();
         for (int k = 0; k < 29; k++) {
             unmet.require(0, 1);
         }
         check.same("20 room for one, not met", unmet.found(0), false);
         unmet.require(0, 1);
-        check.refuses(unmet, "20 full, and not met", () -> unmet.found(0), STATE);
+        check.yields("20 full, and not met", () -> unmet.found(0), STATE);
     }
 
     private static void promise21Verdict() {
-        ChoiceBoard board = new ChoiceBoard();
+        Face board = new Real();
         check.same("21 nothing", board.verdict(), 0);
         board.found(7);
         check.same("21 taken, no objective", board.verdict(), 3);
-        ChoiceBoard withObjective = new ChoiceBoard();
+        Face withObjective = new Real();
         Check.draft(withObjective, 9, 1).objective();
         check.same("21 nothing, with an objective", withObjective.verdict(), 0);
         withObjective.found(512);
         check.same("21 taken, not shown to be least", withObjective.verdict(), 0);
         withObjective.found(0);
         check.same("21 the bound is void: least", withObjective.verdict(), 2);
-        ChoiceBoard proof = new ChoiceBoard();
+        Face proof = new Real();
         Check.draft(proof, 0, 1, 1, 1).require(0, 1);
         Check.draft(proof, 0, 1, 1, 1).objective();
         proof.found(1);
@@ -272,40 +272,40 @@ final class ProofTest {
     }
 
     private static void promise21VerdictOfVoidOnes() {
-        ChoiceBoard board = new ChoiceBoard();
+        Face board = new Real();
         Check.draft(board, 0, 2, 1, -3).require(0, 2);
         check.same("21 sizes just the degree", board.verdict(), 0);
         Check.draft(board, 0, 2, 1, -3).require(0, 3);
         check.same("21 sizes 1 less", board.verdict(), 1);
         board.require(0, 0);
         check.same("21 not the last one", board.verdict(), 1);
-        ChoiceBoard first = new ChoiceBoard();
+        Face first = new Real();
         first.require(0, 1);
         check.same("21 the first one", first.verdict(), 1);
         first.require(0, 0);
         check.same("21 still the first one", first.verdict(), 1);
-        ChoiceBoard contrary = new ChoiceBoard();
+        Face contrary = new Real();
         Check.draft(contrary, 0, 1).require(0, 1);
         Check.draft(contrary, 0, 1).require(1, 0);
         check.same("21 a conflict alone shows nothing", contrary.verdict(), 0);
         check.same("21 solving shows nothing", contrary.solve() + contrary.verdict(), 0);
         contrary.contradict(1);
         check.same("21 derived void one", contrary.verdict(), 1);
-        ChoiceBoard wrongBound = new ChoiceBoard();
+        Face wrongBound = new Real();
         wrongBound.found(3);
         wrongBound.contradict(0);
         check.same("21 still no objective", wrongBound.verdict(), 3);
     }
 
     private static void promise22Best() {
-        ChoiceBoard board = new ChoiceBoard();
-        check.refuses(board, "22 none", board::best, ELEMENT);
+        Face board = new Real();
+        check.yields("22 none", board::best, ELEMENT);
         for (int v = 0; v < 10; v++) {
             board.term(v, v % 2 == 0 ? 99 : -99);
         }
         board.objective();
         board.solve();
-        check.refuses(board, "22 solving takes none", board::best, ELEMENT);
+        check.yields("22 solving takes none", board::best, ELEMENT);
         board.found(1023);
         check.same("22 zero", board.best(), 0);
         board.found(2);

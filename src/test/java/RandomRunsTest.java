@@ -1,10 +1,10 @@
 import java.util.Random;
-import java.util.concurrent.Callable;
+import java.util.function.Consumer;
+import java.util.function.Function;
 
-/** Random runs of 512 calls, each call answered by ChoiceBoard as by SlowBoard. */
+/** Random runs of 512 calls, each call answered by the program as by SlowBoard. */
 final class RandomRunsTest {
-    private static final int RUNS = 400;
-    private static final int CALLS = 512;
+    private static final int RUNS = 600;
 
     private final Check check;
     private final Random random;
@@ -18,8 +18,8 @@ final class RandomRunsTest {
     /** The higher, the later a run takes choices: that ends its given constraints. */
     private final int patience;
 
-    private final ChoiceBoard board = new ChoiceBoard();
-    private final SlowBoard slow = new SlowBoard();
+    private final Real board = new Real();
+    private final Face slow = new SlowBoard();
 
     private RandomRunsTest(Check check, int run) {
         this.check = check;
@@ -34,26 +34,26 @@ final class RandomRunsTest {
         Check check = new Check("RandomRunsTest");
         for (int run = 0; run < RUNS; run++) {
             RandomRunsTest test = new RandomRunsTest(check, run);
-            while (test.calls < CALLS) {
+            while (test.board.callsLeft() > 0) {
                 test.step();
             }
         }
         check.end();
     }
 
-    private void both(String what, Callable<Object> fast, Callable<Object> model) {
+    private void ask(String what, Function<Face, Object> call) {
         calls++;
-        if (calls <= CALLS) {
-            check.same("run " + run + ", call " + calls + ": " + what, answer(fast), answer(model));
+        if (board.callsLeft() > 0) {
+            check.same("run " + run + ", call " + calls + ": " + what,
+                    Check.outcome(() -> call.apply(board)), Check.outcome(() -> call.apply(slow)));
         }
     }
 
-    private static String answer(Callable<Object> call) {
-        try {
-            return String.valueOf(call.call());
-        } catch (Exception e) {
-            return e.getClass().getSimpleName();
-        }
+    private void tell(String what, Consumer<Face> call) {
+        ask(what, face -> {
+            call.accept(face);
+            return "nothing";
+        });
     }
 
     private boolean seldom() {
@@ -90,24 +90,26 @@ final class RandomRunsTest {
 
     private void stepOfDraft(int kind) {
         if (kind == 0) {
-            both("clear", () -> { board.clear(); return 0; }, slow::clear);
+            tell("clear", Face::clear);
         } else if (kind == 1) {
-            both("objective", () -> { board.objective(); return 0; }, slow::objective);
+            tell("objective", Face::objective);
         } else if (kind == 2) {
             fillDraft();
-            both("objective", () -> { board.objective(); return 0; }, slow::objective);
+            tell("objective", Face::objective);
         } else if (kind < 6) {
             int b = bound(fillDraft() - random.nextInt(spread + 1) + (seldom() ? spread : 0));
-            int type = seldom() ? within(0, 1) : 0;
-            both("require " + type + " " + b, () -> board.require(type, b), () -> slow.require(type, b));
+            require(seldom() ? within(0, 1) : 0, b);
         } else if (kind < 9) {
             int b = bound(fillDraft() + random.nextInt(spread + 1) - (seldom() ? spread : 0));
-            int type = seldom() ? within(0, 1) : 1;
-            both("require " + type + " " + b, () -> board.require(type, b), () -> slow.require(type, b));
+            require(seldom() ? within(0, 1) : 1, b);
         } else {
             int b = bound(fillDraft() - random.nextInt(6 * spread + 1));
-            both("contradict " + b, () -> board.contradict(b), () -> slow.contradict(b));
+            ask("contradict " + b, face -> face.contradict(b));
         }
+    }
+
+    private void require(int kind, int b) {
+        ask("require " + kind + " " + b, face -> face.require(kind, b));
     }
 
     /** Some factors, and their sum for the hidden choice (if the draft was empty before). */
@@ -116,7 +118,7 @@ final class RandomRunsTest {
         for (int terms = random.nextInt(5); terms >= 0; terms--) {
             int v = within(0, 9);
             int a = within(-spread, spread);
-            both("term " + v + " " + a, () -> { board.term(v, a); return 0; }, () -> slow.term(v, a));
+            tell("term " + v + " " + a, face -> face.term(v, a));
             sum += (hidden >> Math.max(v, 0) & 1) * a;
         }
         return sum;
@@ -124,25 +126,25 @@ final class RandomRunsTest {
 
     private void stepOfStack(int kind) {
         if (kind < 4) {
-            int k = within(0, board.constraints() - 1);
-            both("load " + k, () -> { board.load(k); return 0; }, () -> slow.load(k));
+            int k = within(0, slow.constraints() - 1);
+            tell("load " + k, face -> face.load(k));
         } else if (kind == 4) {
             int v = within(0, 9);
             boolean truth = random.nextBoolean();
-            both("axiom " + v + " " + truth, () -> { board.axiom(v, truth); return 0; }, () -> slow.axiom(v, truth));
+            tell("axiom " + v + " " + truth, face -> face.axiom(v, truth));
         } else if (kind < 8) {
-            both("add", () -> { board.add(); return 0; }, slow::add);
+            tell("add", Face::add);
         } else if (kind == 8) {
             int m = random.nextInt(4) == 0 ? within(1, 1000) : within(1, 5);
-            both("times " + m, () -> { board.times(m); return 0; }, () -> slow.times(m));
+            tell("times " + m, face -> face.times(m));
         } else if (kind == 9) {
             int m = seldom() ? within(1, 1000000) : within(1, 5);
-            both("divide " + m, () -> { board.divide(m); return 0; }, () -> slow.divide(m));
+            tell("divide " + m, face -> face.divide(m));
         } else if (kind == 10) {
-            both("saturate", () -> { board.saturate(); return 0; }, slow::saturate);
+            tell("saturate", Face::saturate);
         } else {
             int v = within(0, 9);
-            both("weaken " + v, () -> { board.weaken(v); return 0; }, () -> slow.weaken(v));
+            tell("weaken " + v, face -> face.weaken(v));
         }
         seeTop();
     }
@@ -150,51 +152,51 @@ final class RandomRunsTest {
     private void seeTop() {
         for (int times = 0; times < 3; times++) {
             int v = within(-2, 9);
-            both("top " + v, () -> board.top(v), () -> slow.top(v));
+            ask("top " + v, face -> face.top(v));
         }
     }
 
     private void stepOfProof(int kind) {
         if (kind < 2) {
-            both("learn", board::learn, slow::learn);
+            ask("learn", Face::learn);
         } else if (kind < 4) {
-            both("drop", () -> { board.drop(); return 0; }, slow::drop);
+            tell("drop", Face::drop);
         } else if (kind < 6 && random.nextInt(patience) == 0) {
             int choice = new int[] {hidden, solution(), within(0, 1023)}[random.nextInt(3)];
-            both("found " + choice, () -> board.found(choice) ? 1 : 0, () -> slow.found(choice));
+            ask("found " + choice, face -> face.found(choice));
         } else {
-            both("solve", board::solve, slow::solve);
-            both("least", board::least, slow::least);
+            ask("solve", Face::solve);
+            ask("least", Face::least);
         }
     }
 
     /** The choice of the latest solve, or 0. */
     private int solution() {
         int choice = 0;
-        for (int v = 0; v < 10 && !Check.solution(board).equals("none"); v++) {
-            choice |= board.value(v) << v;
+        for (int v = 0; v < 10 && !Look.solution(slow).equals("none"); v++) {
+            choice |= slow.value(v) << v;
         }
         return choice;
     }
 
     private void stepOfQuestion(int kind) {
         if (kind == 0) {
-            both("verdict", board::verdict, slow::verdict);
+            ask("verdict", Face::verdict);
         } else if (kind == 1) {
-            both("best", board::best, slow::best);
+            ask("best", Face::best);
         } else if (kind == 2) {
-            both("constraints", board::constraints, slow::constraints);
+            ask("constraints", Face::constraints);
         } else if (kind < 5) {
             int v = within(0, 9);
-            both("value " + v, () -> board.value(v), () -> slow.value(v));
+            ask("value " + v, face -> face.value(v));
         } else if (kind == 5) {
-            int k = within(0, board.constraints() - 1);
+            int k = within(0, slow.constraints() - 1);
             int v = within(-2, 9);
-            both("constraint " + k + " " + v, () -> board.constraint(k, v), () -> slow.constraint(k, v));
+            ask("constraint " + k + " " + v, face -> face.constraint(k, v));
         } else {
             int known = random.nextBoolean() ? within(0, 1023) : random.nextInt(1024) & random.nextInt(1024);
             int values = random.nextBoolean() ? within(0, 1023) : hidden;
-            both("close " + known + " " + values, () -> board.close(known, values), () -> slow.close(known, values));
+            ask("close " + known + " " + values, face -> face.close(known, values));
         }
     }
 }

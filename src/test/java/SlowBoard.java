@@ -10,26 +10,26 @@ import java.util.NoSuchElementException;
  * two rows of sizes, what counts if true and what counts if false, and all questions about choices
  * go through all 1024 of them or through one variable at a time.
  */
-final class SlowBoard {
+final class SlowBoard implements Face {
     private record Rule(long[] ifTrue, long[] ifFalse, long degree, boolean given) {
         long weight(int v) {
             return ifTrue[v] - ifFalse[v];
         }
 
-        long counted(Boolean[] partial, boolean openCounts) {
-            long sum = 0;
+        long slack(Boolean[] partial) {
+            long sum = -degree;
             for (int v = 0; v < 10; v++) {
-                if (partial[v] == null) {
-                    sum += openCounts ? ifTrue[v] + ifFalse[v] : 0;
-                } else {
-                    sum += partial[v] ? ifTrue[v] : ifFalse[v];
-                }
+                sum += partial[v] == null ? ifTrue[v] + ifFalse[v] : partial[v] ? ifTrue[v] : ifFalse[v];
             }
             return sum;
         }
 
         boolean meets(int choice) {
-            return counted(partial(1023, choice), false) >= degree;
+            long counted = 0;
+            for (int v = 0; v < 10; v++) {
+                counted += (choice >> v & 1) == 1 ? ifTrue[v] : ifFalse[v];
+            }
+            return counted >= degree;
         }
 
         boolean isVoid() {
@@ -110,7 +110,7 @@ final class SlowBoard {
         return low <= n && n <= high;
     }
 
-    private long keep(Rule rule) {
+    private int keep(Rule rule) {
         store.add(rule);
         return store.size() - 1;
     }
@@ -121,45 +121,48 @@ final class SlowBoard {
         return old;
     }
 
-    long term(int v, int a) {
+    @Override
+    public void term(int v, int a) {
         argument(in(v, 0, 9) && in(a, -99, 99));
         draft[v] = a;
-        return 0;
     }
 
-    long clear() {
+    @Override
+    public void clear() {
         takeDraft();
-        return 0;
     }
 
-    long require(int kind, int b) {
+    @Override
+    public int require(int kind, int b) {
         argument(in(kind, 0, 1) && in(b, -9999, 9999));
         state(store.size() < 30 && best == null);
         return keep(kind == 0 ? atLeast(takeDraft(), b, true) : atLeast(turned(takeDraft()), -b, true));
     }
 
-    long objective() {
+    @Override
+    public void objective() {
         state(best == null);
         goal = takeDraft();
-        return 0;
     }
 
-    long constraints() {
+    @Override
+    public int constraints() {
         return store.size();
     }
 
-    long constraint(int k, int v) {
+    @Override
+    public int constraint(int k, int v) {
         element(in(k, 0, store.size() - 1));
         argument(in(v, -2, 9));
         Rule rule = store.get(k);
-        return v == -2 ? (rule.given ? 1 : 0) : v == -1 ? rule.degree : rule.weight(v);
+        return v == -2 ? (rule.given ? 1 : 0) : (int) (v == -1 ? rule.degree : rule.weight(v));
     }
 
     /** One variable at a time, the last constraint and the last variable first. */
     private static boolean closes(List<Rule> rules, Boolean[] partial) {
         for (int steps = 0; steps < 20; steps++) {
             for (Rule rule : rules) {
-                if (rule.counted(partial, true) < rule.degree) {
+                if (rule.slack(partial) < 0) {
                     return false;
                 }
             }
@@ -171,7 +174,7 @@ final class SlowBoard {
     private static void forceOne(List<Rule> rules, Boolean[] partial) {
         for (int k = rules.size() - 1; k >= 0; k--) {
             Rule rule = rules.get(k);
-            long slack = rule.counted(partial, true) - rule.degree;
+            long slack = rule.slack(partial);
             for (int v = 9; v >= 0; v--) {
                 if (partial[v] == null && Math.abs(rule.weight(v)) > slack) {
                     partial[v] = rule.weight(v) > 0;
@@ -181,35 +184,36 @@ final class SlowBoard {
         }
     }
 
-    long close(int known, int values) {
+    @Override
+    public int close(int known, int values) {
         argument(in(known, 0, 1023) && in(values, 0, 1023));
         Boolean[] partial = partial(known, values);
         if (!closes(store, partial)) {
             return -1;
         }
-        long answer = 0;
+        int answer = 0;
         for (int v = 0; v < 10; v++) {
             if (partial[v] != null) {
-                answer += (1024L + (partial[v] ? 1 : 0)) << v;
+                answer += (1024 + (partial[v] ? 1 : 0)) << v;
             }
         }
         return answer;
     }
 
-    long load(int k) {
+    @Override
+    public void load(int k) {
         element(in(k, 0, store.size() - 1));
         state(stack.size() < 6);
         stack.push(store.get(k));
-        return 0;
     }
 
-    long axiom(int v, boolean truth) {
+    @Override
+    public void axiom(int v, boolean truth) {
         element(in(v, 0, 9));
         state(stack.size() < 6);
         long[] weights = new long[10];
         weights[v] = truth ? 1 : -1;
         stack.push(rule(weights, 0, false));
-        return 0;
     }
 
     private static Rule small(Rule rule) {
@@ -223,7 +227,8 @@ final class SlowBoard {
         return rule;
     }
 
-    long add() {
+    @Override
+    public void add() {
         state(stack.size() >= 2);
         Rule[] rules = stack.toArray(new Rule[0]);
         long[] weights = new long[10];
@@ -238,71 +243,76 @@ final class SlowBoard {
         stack.pop();
         stack.pop();
         stack.push(sum);
-        return 0;
     }
 
-    private long replaceTop(Rule rule) {
+    private void replaceTop(Rule rule) {
         stack.pop();
         stack.push(rule);
-        return 0;
     }
 
-    long times(int m) {
+    @Override
+    public void times(int m) {
         state(!stack.isEmpty());
         argument(in(m, 1, 1000));
         long[] weights = Arrays.stream(weights(stack.peek())).map(w -> w * m).toArray();
-        return replaceTop(small(rule(weights, stack.peek().degree * m, false)));
+        replaceTop(small(rule(weights, stack.peek().degree * m, false)));
     }
 
     private static long up(long n, long m) {
         return n / m + (n % m > 0 ? 1 : 0);
     }
 
-    long divide(int m) {
+    @Override
+    public void divide(int m) {
         state(!stack.isEmpty());
         argument(in(m, 1, 1000000));
         long[] weights = Arrays.stream(weights(stack.peek())).map(w -> w < 0 ? -up(-w, m) : up(w, m)).toArray();
-        return replaceTop(rule(weights, up(stack.peek().degree, m), false));
+        replaceTop(rule(weights, up(stack.peek().degree, m), false));
     }
 
-    long saturate() {
+    @Override
+    public void saturate() {
         state(!stack.isEmpty());
         long d = stack.peek().degree;
         long[] weights = Arrays.stream(weights(stack.peek())).map(w -> Math.max(-d, Math.min(d, w))).toArray();
-        return replaceTop(rule(weights, d, false));
+        replaceTop(rule(weights, d, false));
     }
 
-    long weaken(int v) {
+    @Override
+    public void weaken(int v) {
         state(!stack.isEmpty());
         element(in(v, 0, 9));
         long[] weights = weights(stack.peek());
         long degree = stack.peek().degree - Math.abs(weights[v]);
         weights[v] = 0;
-        return replaceTop(rule(weights, degree, false));
+        replaceTop(rule(weights, degree, false));
     }
 
-    long drop() {
+    @Override
+    public void drop() {
         state(!stack.isEmpty());
         stack.pop();
-        return 0;
     }
 
-    long top(int v) {
+    @Override
+    public int top(int v) {
         argument(in(v, -2, 9));
         if (v == -2) {
             return stack.size();
         }
         state(!stack.isEmpty());
-        return v == -1 ? stack.peek().degree : stack.peek().weight(v);
+        return (int) (v == -1 ? stack.peek().degree : stack.peek().weight(v));
     }
 
-    long learn() {
+    @Override
+    public int learn() {
         state(!stack.isEmpty() && store.size() < 30);
         Rule rule = stack.pop();
         return keep(rule(weights(rule), rule.degree, false));
     }
 
-    long contradict(int b) {
+    @Override
+    public int contradict(int b) {
         argument(in(b, -9999, 9999));
         state(store.size() < 30);
         Rule wanted = atLeast(draft, b, false);
@@ -328,38 +338,42 @@ final class SlowBoard {
         return Arrays.stream(goal).anyMatch(f -> f != 0);
     }
 
-    long found(int choice) {
+    @Override
+    public boolean found(int choice) {
         argument(in(choice, 0, 1023));
         state(store.size() < 30);
         if (!store.stream().allMatch(rule -> rule.meets(choice))) {
-            return 0;
+            return false;
         }
         best = valueOf(choice);
         if (aims()) {
             keep(atLeast(turned(goal), 1 - best, false));
         }
-        return 1;
+        return true;
     }
 
-    long verdict() {
+    @Override
+    public int verdict() {
         if (store.stream().anyMatch(Rule::isVoid)) {
             return best == null ? 1 : 2;
         }
         return best != null && !aims() ? 3 : 0;
     }
 
-    long best() {
+    @Override
+    public int best() {
         element(best != null);
-        return best;
+        return best.intValue();
     }
 
     /** Goes through the choices with variable 0 as the highest digit, so that the first one stays. */
-    long solve() {
+    @Override
+    public int solve() {
         least = null;
         for (int rank = 0; rank < 1024; rank++) {
             int choice = Integer.reverse(rank) >>> 22;
-            boolean met = store.stream().allMatch(rule -> !rule.given || rule.meets(choice));
-            if (met && (least == null || valueOf(choice) < least)) {
+            boolean better = least == null || valueOf(choice) < least;
+            if (better && store.stream().allMatch(rule -> !rule.given || rule.meets(choice))) {
                 least = valueOf(choice);
                 leastChoice = choice;
             }
@@ -367,12 +381,14 @@ final class SlowBoard {
         return least == null ? 0 : 1;
     }
 
-    long least() {
+    @Override
+    public int least() {
         element(least != null);
-        return least;
+        return least.intValue();
     }
 
-    long value(int v) {
+    @Override
+    public int value(int v) {
         element(least != null);
         argument(in(v, 0, 9));
         return leastChoice >> v & 1;

@@ -19,29 +19,29 @@ final class SolverTest {
     }
 
     private static void promise23Solve() {
-        ChoiceBoard board = new ChoiceBoard();
+        Face board = new Real();
         check.same("23 no constraints", board.solve(), 1);
         Check.draft(board, 0, 1, 1, 1).require(0, 2);
         check.same("23 one way", board.solve(), 1);
-        check.same("23 that way", Check.solution(board), "0 1100000000");
+        check.same("23 that way", Look.solution(board), "0 1100000000");
         Check.draft(board, 0, 1, 1, -1).require(0, 1);
         check.same("23 no way", board.solve(), 0);
         check.same("23 nothing comes into the store", board.constraints(), 2);
         check.same("23 nothing comes onto the stack", board.top(-2), 0);
-        ChoiceBoard pairs = new ChoiceBoard();
+        Face pairs = new Real();
         Check.draft(pairs, 0, 1, 1, 1).require(0, 1);
         Check.draft(pairs, 0, 1, 1, -1).require(0, 0);
         Check.draft(pairs, 0, -1, 1, 1).require(0, 0);
         check.same("23 what closing does not find", pairs.solve(), 1);
         Check.draft(pairs, 0, -1, 1, -1).require(0, -1);
         check.same("23 nor this", pairs.solve(), 0);
-        ChoiceBoard withVoid = new ChoiceBoard();
+        Face withVoid = new Real();
         withVoid.require(0, 1);
         check.same("23 a void one", withVoid.solve(), 0);
     }
 
     private static void promise23SolveLooksAtGivenOnesAlone() {
-        ChoiceBoard board = new ChoiceBoard();
+        Face board = new Real();
         Check.draft(board, 0, 3, 1, 2).objective();
         Check.draft(board, 0, 1, 1, 1).require(0, 1);
         board.found(2);
@@ -51,24 +51,24 @@ final class SolverTest {
         board.saturate();
         board.learn();
         check.same("23 the bound is derived", board.solve(), 1);
-        check.same("23 it does not count", Check.solution(board), "2 0100000000");
+        check.same("23 it does not count", Look.solution(board), "2 0100000000");
         Check.draft(board, 4, 1);
         board.solve();
         board.contradict(0);
-        check.same("23 the draft is left", Check.stored(board, 3), "1 x4 >= 0 derived");
-        ChoiceBoard mixed = new ChoiceBoard();
+        check.same("23 the draft is left", Look.stored(board, 3), "1 x4 >= 0 derived");
+        Face mixed = new Real();
         mixed.axiom(0, true);
         mixed.learn();
         Check.draft(mixed, 0, 1).require(0, 1);
         mixed.contradict(0);
         mixed.solve();
-        check.same("23 a given one between derived ones", Check.solution(mixed), "0 1000000000");
+        check.same("23 a given one between derived ones", Look.solution(mixed), "0 1000000000");
     }
 
     private static void promise23SolveOfAFullStore() {
-        ChoiceBoard board = Check.withFullStore();
+        Face board = Check.withFullStore();
         check.same("23 thirty that all meet", board.solve(), 1);
-        ChoiceBoard last = new ChoiceBoard();
+        Face last = new Real();
         for (int k = 0; k < 29; k++) {
             last.require(0, 0);
         }
@@ -77,12 +77,12 @@ final class SolverTest {
         }
         last.require(0, 10);
         last.solve();
-        check.same("23 the last decides", Check.solution(last), "0 1111111111");
+        check.same("23 the last decides", Look.solution(last), "0 1111111111");
     }
 
     private static void promise24Least() {
-        ChoiceBoard board = new ChoiceBoard();
-        check.refuses(board, "24 none", board::least, ELEMENT);
+        Face board = new Real();
+        check.yields("24 none", board::least, ELEMENT);
         board.solve();
         check.same("24 no objective", board.least(), 0);
         for (int v = 0; v < 10; v++) {
@@ -94,82 +94,82 @@ final class SolverTest {
         Check.draft(board, 0, 1, 1, 1, 2, 1).require(0, 2);
         Check.draft(board, 0, 5, 1, 3, 2, 4).objective();
         board.solve();
-        check.same("24 above 0", Check.solution(board), "7 0110000000");
+        check.same("24 above 0", Look.solution(board), "7 0110000000");
         Check.draft(board, 0, 5, 1, -3, 2, 4, 3, -2).objective();
         board.solve();
-        check.same("24 mixed", Check.solution(board), "-1 0111000000");
+        check.same("24 mixed", Look.solution(board), "-1 0111000000");
     }
 
     private static void promise24LeastIsOfTheLatestSolve() {
-        ChoiceBoard board = new ChoiceBoard();
+        Face board = new Real();
         Check.draft(board, 0, -4).objective();
         board.solve();
         Check.draft(board, 1, -7).objective();
-        check.same("24 the objective as it was then", Check.solution(board), "-4 1000000000");
+        check.same("24 the objective as it was then", Look.solution(board), "-4 1000000000");
         board.solve();
-        check.same("24 the latest", Check.solution(board), "-7 0100000000");
+        check.same("24 the latest", Look.solution(board), "-7 0100000000");
         board.require(0, 1);
-        check.same("24 the constraints as they were then", Check.solution(board), "-7 0100000000");
+        check.same("24 the constraints as they were then", Look.solution(board), "-7 0100000000");
         check.same("24 no way now", board.solve(), 0);
-        check.refuses(board, "24 it answered 0", board::least, ELEMENT);
-        check.refuses(board, "25 it answered 0", () -> board.value(0), ELEMENT);
+        check.yields("24 it answered 0", board::least, ELEMENT);
+        check.yields("25 it answered 0", () -> board.value(0), ELEMENT);
     }
 
     private static void promise25Value() {
-        ChoiceBoard board = new ChoiceBoard();
+        Face board = new Real();
         for (int v = 0; v < 10; v++) {
             board.term(v, v % 3 == 0 ? -1 : 1);
         }
         board.objective();
         board.solve();
-        check.same("25 values", Check.solution(board), "-4 1001001001");
+        check.same("25 values", Look.solution(board), "-4 1001001001");
         check.same("25 value 0", board.value(0), 1);
         check.same("25 value 1", board.value(1), 0);
         check.same("25 value 9", board.value(9), 1);
     }
 
     private static void promise25ValueAmongEquals() {
-        ChoiceBoard board = new ChoiceBoard();
+        Face board = new Real();
         board.solve();
-        check.same("25 all equal", Check.solution(board), "0 0000000000");
+        check.same("25 all equal", Look.solution(board), "0 0000000000");
         Check.draft(board, 0, 1, 9, 1).require(0, 1);
         board.solve();
-        check.same("25 variable 0 is false first", Check.solution(board), "0 0000000001");
+        check.same("25 variable 0 is false first", Look.solution(board), "0 0000000001");
         Check.draft(board, 1, 1, 2, 1, 9, -1).require(0, 0);
         board.solve();
-        check.same("25 then variable 1", Check.solution(board), "0 0010000001");
+        check.same("25 then variable 1", Look.solution(board), "0 0010000001");
         Check.draft(board, 3, 1, 4, 1).require(0, 1);
         for (int v = 0; v < 10; v++) {
             board.term(v, 1);
         }
         board.objective();
         board.solve();
-        check.same("25 the least value goes before", Check.solution(board), "2 1000100000");
-        ChoiceBoard rest = new ChoiceBoard();
+        check.same("25 the least value goes before", Look.solution(board), "2 1000100000");
+        Face rest = new Real();
         for (int v = 0; v < 10; v++) {
             rest.term(v, 1);
         }
         rest.require(0, 3);
         rest.solve();
-        check.same("25 three of ten", Check.solution(rest), "0 0000000111");
-        ChoiceBoard group = new ChoiceBoard();
+        check.same("25 three of ten", Look.solution(rest), "0 0000000111");
+        Face group = new Real();
         Check.draft(group, 0, 1, 1, 1, 2, 1).require(0, 1);
         Check.draft(group, 1, 1, 2, -1).require(0, 0);
         Check.draft(group, 0, 2, 1, 1, 2, 1).objective();
         group.solve();
-        check.same("25 a lower variable outweighs many", Check.solution(group), "1 0100000000");
+        check.same("25 a lower variable outweighs many", Look.solution(group), "1 0100000000");
     }
 
     private static void promise25ValueRefuses() {
-        ChoiceBoard board = new ChoiceBoard();
-        check.refuses(board, "25 none", () -> board.value(0), ELEMENT);
-        check.refuses(board, "25 none first", () -> board.value(10), ELEMENT);
+        Face board = new Real();
+        check.yields("25 none", () -> board.value(0), ELEMENT);
+        check.yields("25 none first", () -> board.value(10), ELEMENT);
         board.solve();
         for (int v : new int[] {-1, -2, 10, Integer.MIN_VALUE, Integer.MAX_VALUE}) {
-            check.refuses(board, "25 value " + v, () -> board.value(v), ARGUMENT);
+            check.yields("25 value " + v, () -> board.value(v), ARGUMENT);
         }
         board.require(0, 1);
         board.solve();
-        check.refuses(board, "25 it answered 0 first", () -> board.value(-1), ELEMENT);
+        check.yields("25 it answered 0 first", () -> board.value(-1), ELEMENT);
     }
 }
