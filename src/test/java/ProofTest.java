@@ -20,23 +20,7 @@ final class ProofTest {
         promise21Verdict();
         promise21VerdictOfVoidOnes();
         promise22Best();
-        exampleOfTheReadme();
         check.end();
-    }
-
-    private static void exampleOfTheReadme() {
-        Face board = new Real();
-        Check.draft(board, 0, 1, 1, 1).require(0, 1);
-        Check.draft(board, 0, 3, 1, 2).objective();
-        check.same("example: solve", board.solve(), 1);
-        check.same("example: solution", Look.solution(board), "2 0100000000");
-        check.same("example: found", board.found(2), true);
-        board.load(0);
-        board.times(2);
-        board.load(1);
-        board.add();
-        board.learn();
-        check.same("example: verdict", board.verdict(), 2);
     }
 
     private static void promise18Learn() {
